@@ -4,6 +4,7 @@ final class Check {
         long run();
     }
 
+    private static final int MOST_TOLD = 50;
     private static int wrong = 0;
 
     private Check() {
@@ -11,8 +12,7 @@ final class Check {
 
     static void due(String what, long got, long want) {
         if (got != want) {
-            wrong++;
-            System.out.println(what + " answered " + got + ", due is " + want);
+            tell(what + " answered " + got + ", due is " + want);
         }
     }
 
@@ -22,8 +22,14 @@ final class Check {
 
     static void due(String what, String got, String want) {
         if (!got.equals(want)) {
-            wrong++;
-            System.out.println(what + " answered " + got + ", due is " + want);
+            tell(what + " answered " + got + ", due is " + want);
+        }
+    }
+
+    private static void tell(String line) {
+        wrong++;
+        if (wrong <= MOST_TOLD) {
+            System.out.println(line);
         }
     }
 
