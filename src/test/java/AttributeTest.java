@@ -63,6 +63,9 @@ public final class AttributeTest {
         due("A: b\r\r\n", "A", "b\r");
         due("A: b\rC: d\n", "A", "b\rC: d");
         due("-: 1\n_: 2\n0: 3\n", "_", "2");
+        due("aZ-Az_09: b\n", "Az-aZ_09", "b");
+        due("Z: b\n", "z", "b");
+        due("z: b\n", "Z", "b");
         none("A: b\n", "B");
         none("A: b\n", "AA");
         none("AA: b\n", "A");
@@ -116,6 +119,7 @@ public final class AttributeTest {
         wrong("A: b\nA: b\n");
         wrong("A: b\nB: c\na: b\n");
         wrong("Ab-C: b\naB-c: c");
+        wrong("Z: b\nz: c");
         wrong("B: 1\nb\n : 2\nA: 3\n");
         wrong(" A: b\n");
         wrong(" \nA: b\n");

@@ -53,9 +53,9 @@ public final class PackedTest {
         fine("an empty plain block", new Bits().plain(true, new byte[0]), "");
         fine("two plain blocks", new Bits().plain(false, Maker.text("one")).plain(true, Maker.text("two")), "onetwo");
         fine("plain behind signs", new Bits().block(false, 1).fixed('x').fixed(256).plain(true, Maker.text("y")), "xy");
-        // Three bits and five: what is left out of the byte is nothing then.
-        fine("plain on a byte's edge", new Bits().block(false, 1).fixed(256).block(false, 1).fixed(256).block(false, 1)
-                .fixed(256).block(false, 1).fixed(200).fixed(256).plain(true, Maker.text("y")), "\u00c8y");
+        // Ten bits and nineteen, and the three that begin the plain block, end with a byte: nothing is left out then.
+        fine("plain on a byte's edge", new Bits().block(false, 1).fixed(256).block(false, 1).fixed(200).fixed(256)
+                .plain(true, Maker.text("y")), "\u00c8y");
         wrong("N not turned", new Bits().block(true, 0).rest().number(16, 1).number(16, 1).number(8, 'a'), "a");
         wrong("N turned but for a bit", new Bits().block(true, 0).rest().number(16, 1).number(16, ~1 ^ 0x8000)
                 .number(8, 'a'), "a");
@@ -80,6 +80,7 @@ public final class PackedTest {
         wrong("286", new Bits().block(true, 1).fixed('a').fixed(286).fixedWay(0).fixed(256), "a");
         wrong("287", new Bits().block(true, 1).fixed('a').fixed(287).fixedWay(0).fixed(256), "a");
         wrong("way 30", new Bits().block(true, 1).fixed('a').fixed(257).fixedWay(30).fixed(256), "aaaa");
+        wrong("way 30 for nothing", new Bits().block(true, 1).fixed('a').fixed(257).fixedWay(30).fixed(256), "a");
         wrong("way 31", new Bits().block(true, 1).fixed('a').fixed(257).fixedWay(31).fixed(256), "aaaa");
     }
 
@@ -162,6 +163,8 @@ public final class PackedTest {
                 .among(firsts, 256), "aaaa");
         wrong("the way that isn't there", tell(new Bits(), firsts, one).among(firsts, 'a').among(firsts, 257).code(1, 1)
                 .among(firsts, 256), "aaaa");
+        wrong("the way that isn't there, for nothing", tell(new Bits(), firsts, one).among(firsts, 'a').among(firsts, 257)
+                .code(1, 1).among(firsts, 256), "a");
         int[] last = lengths(30, 29, 1);
         fine("one way that isn't used", tell(new Bits(), firsts, last).among(firsts, 'a').among(firsts, 256), "a");
         int[] none = {0};
@@ -197,6 +200,12 @@ public final class PackedTest {
         wrong("287 first codes", tell(new Bits(), more, none).among(more, 'a').among(more, 256), "a");
         int[] more2 = lengths(288, 'a', 1, 256, 1);
         wrong("288 first codes", tell(new Bits(), more2, none).among(more2, 'a').among(more2, 256), "a");
+        Bits behind = new Bits().counts(false, 257, 2, LENGTHS);
+        for (int i = 0; i < 259; i++) {
+            behind.among(LENGTHS, i < 257 ? right[i] : 1);
+        }
+        behind.among(right, 'a').among(right, 256).block(true, 2).number(5, 30).number(5, 0).number(4, 0);
+        wrong("287 first codes behind right ones", behind.among(right, 256), "a");
         int[] manyWays = lengths(31, 0, 1);
         wrong("31 ways", tell(new Bits(), right, manyWays).among(right, 'a').among(right, 256), "a");
         int[] manyWays2 = lengths(32, 0, 1);
