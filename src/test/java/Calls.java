@@ -1,3 +1,5 @@
+import java.util.function.IntUnaryOperator;
+
 /** Calls of the face in the units that tests think in. */
 final class Calls {
     private Calls() {
@@ -49,19 +51,40 @@ final class Calls {
 
     /** What octet() tells, as a text. */
     static String octets(NestedArchives x) {
-        StringBuilder text = new StringBuilder();
-        for (int i = 0; x.octet(i) >= 0; i++) {
-            text.append((char) x.octet(i));
-        }
-        return text.toString();
+        return told(x::octet);
     }
 
     /** What value() tells, as a text. */
     static String values(NestedArchives x) {
+        return told(x::value);
+    }
+
+    private static String told(IntUnaryOperator call) {
         StringBuilder text = new StringBuilder();
-        for (int i = 0; x.value(i) >= 0; i++) {
-            text.append((char) x.value(i));
+        int b = call.applyAsInt(0);
+        while (b >= 0) {
+            text.append((char) b);
+            b = call.applyAsInt(text.length());
         }
         return text.toString();
+    }
+
+    /** What was read is this. Of a long one the ends alone are looked at: an object has 512 calls, and a full tape takes 401. */
+    static void octetsAre(String what, NestedArchives x, String content) {
+        ends(what + ": octet ", x::octet, content);
+    }
+
+    /** The value that is kept is this; of a long one the ends alone are looked at. */
+    static void valueIs(String what, NestedArchives x, String content) {
+        ends(what + ": value ", x::value, content);
+    }
+
+    private static void ends(String what, IntUnaryOperator call, String content) {
+        int n = content.length();
+        for (int i = 0; i < n; i = i == 39 ? Math.max(40, n - 40) : i + 1) {
+            Check.due(what + i, call.applyAsInt(i), content.charAt(i));
+        }
+        Check.due(what + n, call.applyAsInt(n), -1);
+        Check.due(what + -1, call.applyAsInt(-1), -1);
     }
 }

@@ -25,6 +25,8 @@ final class Maker {
         int localMark = 0x04034b50;
         long placeMore = 0;
         int nameLengthMore = 0;
+        int extraLengthMore = 0;
+        int commentLengthMore = 0;
         int localNameLengthMore = 0;
         int localExtraLengthMore = 0;
         private long place;
@@ -172,8 +174,8 @@ final class Maker {
         put(out, 4, item.packedSize);
         put(out, 4, item.size);
         put(out, 2, item.name.length + item.nameLengthMore);
-        put(out, 2, item.extra.length);
-        put(out, 2, item.comment.length);
+        put(out, 2, item.extra.length + item.extraLengthMore);
+        put(out, 2, item.comment.length + item.commentLengthMore);
         put(out, 2, item.disk);
         put(out, 2, 0x7788);
         put(out, 4, 0x99AABBCCL);

@@ -4,12 +4,15 @@ import java.util.Random;
 public final class ModelTest {
     private static final String[] NAMES = {"a", "lib/b.jar", "c", "d", "index.txt", "META-INF/MANIFEST.MF", "e~", "Main", "X-1"};
     private static final String[] TYPED = {"Main", "main", "X-1", "x_1", "A", "b", "zz", ""};
+    /** What later calls answer is free. */
+    private static final int MOST_CALLS = 512;
     private static final int[] ODD = {-1, 7, 64, Integer.MIN_VALUE, Integer.MAX_VALUE};
 
     private final Random random;
     private final NestedArchives x = new NestedArchives();
     private final Model model = new Model();
     private final int run;
+    private int calls = 0;
     private static final java.util.Map<String, Integer> SEEN = new java.util.TreeMap<>();
 
     private ModelTest(int run) {
@@ -18,7 +21,7 @@ public final class ModelTest {
     }
 
     public static void main(String[] args) {
-        int runs = args.length > 0 ? Integer.parseInt(args[0]) : 1500;
+        int runs = args.length > 0 ? Integer.parseInt(args[0]) : 2500;
         for (int run = 0; run < runs; run++) {
             new ModelTest(run).go();
         }
@@ -222,15 +225,22 @@ public final class ModelTest {
         }
     }
 
+    /** Makes the call and looks at fault() and place(), as long as these three are promised anything. */
     private void call(String name, long... a) {
+        calls += 3;
+        if (calls > MOST_CALLS) {
+            return;
+        }
         String due = model.call(name, a);
         String got = Check.answer(() -> answer(name, a));
         String what = "run " + run + ": " + name + java.util.Arrays.toString(a);
         Check.due(what, got, due);
-        if (!name.equals("feed") && !name.equals("type")) {
+        if (name.equals("feed") || name.equals("type")) {
+            calls -= 2;
+        } else {
             Check.due(what + ": fault()", x.fault(), Long.parseLong(model.call("fault")));
             Check.due(what + ": place()", x.place(), Long.parseLong(model.call("place")));
-            SEEN.merge("fault " + x.fault(), 1, Integer::sum);
+            SEEN.merge("fault " + model.call("fault"), 1, Integer::sum);
             SEEN.merge(name + (due.endsWith("Exception") ? " " + due : due.startsWith("-1") ? " -1" : ""), 1, Integer::sum);
         }
     }

@@ -34,7 +34,7 @@ public final class PackedTest {
     private static void fine(String what, Bits bits, String content) {
         NestedArchives x = with(bits.bytes(), Maker.text(content));
         Check.due(what, Check.answer(() -> x.read(0, 0)), Integer.toString(content.length()));
-        Check.due(what + ": octets", Calls.octets(x), content);
+        Calls.octetsAre(what, x, content);
         byte[] more = Arrays.copyOf(bits.bytes(), bits.bytes().length + 1);
         NestedArchives y = with(more, Maker.text(content));
         Check.fault(what + " and a byte", y, () -> y.read(0, 0), 8, 0);
@@ -124,7 +124,7 @@ public final class PackedTest {
                     maker.add("e", Maker.text(content), bits.bytes(), 8);
                     NestedArchives x = Calls.opened(maker);
                     Check.due("way " + way, Check.answer(() -> x.read(0, 0)), "7603");
-                    Check.due("way " + way + ": octets", Calls.octets(x).equals(content), true);
+                    Calls.octetsAre("way " + way, x, content);
                 } else {
                     wrong("way " + way, bits, before + "aaa");
                 }
@@ -339,8 +339,7 @@ public final class PackedTest {
             if (told == due) {
                 rightOnes++;
                 Check.due("turn " + turn, Check.answer(() -> x.read(0, 0)), Integer.toString(due.length));
-                Check.due("turn " + turn + ": octets", Calls.octets(x).equals(
-                        new String(due, java.nio.charset.StandardCharsets.ISO_8859_1)), true);
+                Calls.octetsAre("turn " + turn, x, new String(due, java.nio.charset.StandardCharsets.ISO_8859_1));
             } else {
                 wrongOnes++;
                 Check.fault("turn " + turn, x, () -> x.read(0, 0), 8, 0);

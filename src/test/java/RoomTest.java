@@ -40,7 +40,7 @@ public final class RoomTest {
         NestedArchives x = new NestedArchives();
         Calls.tape(x, archive);
         Check.due("open", x.open(), 9);
-        for (int i = 0; i < 90; i++) {
+        for (int i = 0; i < 75; i++) {
             x.index();
             x.read(0, 8);
             x.read(0, i % 6);
