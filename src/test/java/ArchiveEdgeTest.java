@@ -307,6 +307,12 @@ public final class ArchiveEdgeTest {
         wrong("a place behind the last byte", with(HEADER + 42, 4, LENGTH), 5, 0);
         wrong("a place of 2^31", with(HEADER + 42, 4, 0x80000000L), 5, 0);
         wrong("a place of 2^32 - 1", with(HEADER + 42, 4, 0xFFFFFFFFL), 5, 0);
+        // A local header ahead of the base can't be told: a place has no sign.
+        byte[] ahead = joined(Arrays.copyOf(small(), HEADER), with(LOCAL, 1, 0));
+        for (long place : new long[] {0x100000000L - HEADER, HEADER, 2 * HEADER}) {
+            wrong("a place of " + place, with(ahead, HEADER + HEADER + 42, 4, place), 5, 0);
+        }
+        fine("but as a place from 0 on", with(with(ahead, HEADER + END + 16, 4, 2 * HEADER), HEADER + HEADER + 42, 4, 0));
         byte[] moved = joined(new byte[7], small());
         fine("a place is counted from the base on", moved);
         wrong("and not from 0 on", with(moved, 7 + HEADER + 42, 4, 7), 5, 0);

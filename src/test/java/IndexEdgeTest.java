@@ -6,6 +6,7 @@ public final class IndexEdgeTest {
         lines();
         names();
         again();
+        another();
         Check.finish();
     }
 
@@ -110,6 +111,27 @@ public final class IndexEdgeTest {
                 Check.due(n + " behind " + before + ", again", x.index(), n);
                 Check.due(n + " behind " + before + ", again: count(-1)", x.count(-1), 1 + n);
             }
+        }
+    }
+
+    /** One index after the other: nothing of the one before is left. */
+    private static void another() {
+        String good = line("a");
+        String[] indexes = {good.repeat(6), "", good.repeat(3), "x", good.repeat(2) + "x", good, good.repeat(7), line("b"), ""};
+        String[] due = {"6", "0", "3", "11 0", "11 2", "1", "11 6", "12 0", "0"};
+        NestedArchives x = new NestedArchives();
+        for (int i = 0; i < indexes.length; i++) {
+            Maker inner = new Maker();
+            inner.store("i", "");
+            Maker maker = new Maker();
+            maker.store("a", inner.bytes());
+            maker.store("index.txt", indexes[i]);
+            Calls.open(x, maker);
+            Check.due("index " + i + ": no mount yet", x.count(-1), 1);
+            String answer = Check.answer(x::index);
+            boolean threw = answer.equals("IllegalArgumentException");
+            Check.due("index " + i, threw ? x.fault() + " " + x.place() : answer, due[i]);
+            Check.due("index " + i + ": count(-1)", x.count(-1), threw ? 1 : 1 + Integer.parseInt(answer));
         }
     }
 }

@@ -49,6 +49,10 @@ public final class IndexTest {
         Check.due("again", x.index(), 3);
         Check.due("again: the second", Calls.find(x, 1, "own0"), 200);
         Check.due("a mount behind them", x.mount(1), 4);
+        Check.due("a mount behind them: what it has", Calls.find(x, 1, "own1"), 400);
+        Check.due("a mount behind them leaves the first", Calls.find(x, 1, "own2"), 100);
+        Check.due("a mount behind them leaves the second", Calls.find(x, 1, "own0"), 200);
+        Check.due("a mount behind them leaves the third", Calls.find(x, 2, "own2"), 300);
         Check.due("no fault", x.fault(), 0);
         NestedArchives six = Calls.opened(outer(line("lib/1.jar").repeat(6)));
         Check.due("six lines", six.index(), 6);

@@ -9,6 +9,7 @@ public final class ManifestEdgeTest {
         letters();
         lengths();
         faults();
+        again();
         Check.finish();
     }
 
@@ -61,7 +62,7 @@ public final class ManifestEdgeTest {
                 wrong("a name that ends with " + b, "A: b\nx" + name + ": v\n");
             }
             if (b != 58) {
-                wrong(b + " for the colon", "A: b\nB" + name + (isNameByte(b) ? " " : "") + "v\n");
+                wrong(b + " for the colon", "A: b\nB" + name + (isNameByte(b) ? "  v\n" : " v\n"));
             }
             if (b != 32) {
                 wrong(b + " for the blank", "A: b\nB:" + name + "v\n");
@@ -129,6 +130,12 @@ public final class ManifestEdgeTest {
             }
         }
         wrong("the first name once more, as the last", "A: 1\nB: 2\nC: 3\nA: 4");
+        wrong("the second name once more", "A: 1\nB: 2\nb: 3");
+        wrong("the second name once more, as the last", "A: 1\nB: 2\nC: 3\nb: 4");
+        wrong("the name before once more", "A: 1\nBb: 2\nCCC: 3\ncCc: 4\nD: 5");
+        wrong("a name of more than 40 once more", "A: 1\n" + FORTY + "x: 2\n" + FORTY + "X: 3\n");
+        due("names of more than 40 that differ in the last letter", "A: 1\n" + FORTY + "x: 2\n" + FORTY + "y: 3\n", "A", "1");
+        wrong("a name of two lines once more", "A: 1\nName: 2\nNa\n me: 3\n");
         due("the same name behind the main lines", "A: 1\n\nA: 2\n\nA: 3", "A", "1");
         due("a name that goes on behind another", "A: 1\nAA: 2\nAAA: 3\n", "AA", "2");
     }
@@ -165,6 +172,10 @@ public final class ManifestEdgeTest {
         wrong("a blank alone", " ");
         wrong("a blank and an end", " \n");
         wrong("a first line that begins with a blank", " A: v\nA: w\n");
+        wrong("a wrong line is not mended by what goes on behind another", "A\nB: c\n : v\n");
+        wrong("a wrong line ahead of a right one", "B\nA: v\n");
+        wrong("a wrong line between right ones", "B: c\n?: d\nA: v\n");
+        wrong("a wrong line as the last main one", "A: v\nB\n\n");
         wrong("a name alone", "A");
         wrong("a name and a colon", "A:");
         due("a name, a colon and a blank", "A: ", "A", "");
@@ -181,17 +192,19 @@ public final class ManifestEdgeTest {
 
     private static void faults() {
         for (int fault = 6; fault <= 9; fault++) {
-            Maker maker = new Maker();
-            maker.store("A", "");
-            maker.store("other", "");
-            Maker.Item item = maker.store(MANIFEST, "A: v\n");
-            item.flags = fault == 6 ? 1 : 0;
-            item.size = fault == 7 ? 8001 : fault == 8 ? 4 : 5;
-            item.sum ^= fault == 9 ? 1 : 0;
-            NestedArchives x = Calls.opened(maker);
-            Calls.type(x, "A");
-            Check.fault("a manifest with fault " + fault, x, () -> x.attribute(0), fault, 2);
-            Check.due("the name is used", x.number(0), -1);
+            for (String manifest : new String[] {"A: v\n", "wrong"}) {
+                Maker maker = new Maker();
+                maker.store("A", "");
+                maker.store("other", "");
+                Maker.Item item = maker.store(MANIFEST, manifest);
+                item.flags = fault == 6 ? 1 : 0;
+                item.size = fault == 7 ? 8001 : fault == 8 ? 4 : 5;
+                item.sum ^= fault == 9 ? 1 : 0;
+                NestedArchives x = Calls.opened(maker);
+                Calls.type(x, "A");
+                Check.fault("a manifest with fault " + fault, x, () -> x.attribute(0), fault, 2);
+                Check.due("the name is used", x.number(0), -1);
+            }
         }
         NestedArchives x = with("A: v\nB: w\n");
         Check.due("kept", Calls.attribute(x, 0, "B"), 1);
@@ -205,5 +218,43 @@ public final class ManifestEdgeTest {
         Calls.open(x, new Maker());
         Check.due("no manifest", Calls.attribute(x, 0, "A"), -1);
         Check.due("no manifest: value(0)", x.value(0), -1);
+    }
+
+    /** One manifest after the other: nothing of the one before is left. */
+    private static void again() {
+        StringBuilder lines = new StringBuilder("A: v\n");
+        for (int i = 0; i < 100; i++) {
+            lines.append("Name-").append(i).append(": ").append("w".repeat(60)).append('\n');
+        }
+        NestedArchives x = with(lines.toString());
+        for (int i = 0; i < 10; i++) {
+            Check.due("call " + i, Check.answer(() -> Calls.attribute(x, 0, "name-99")), "60");
+            Check.due("call " + i + ": value(59)", x.value(59), 'w');
+            Check.due("call " + i + ": value(60)", x.value(60), -1);
+            Check.due("call " + i + ", a shorter one", Check.answer(() -> Calls.attribute(x, 0, "a")), "1");
+            Check.due("call " + i + ", a shorter one: value(1)", x.value(1), -1);
+        }
+        Maker maker = new Maker();
+        String[] manifests = {"A: 1\nB: 2\n", null, "A\n", "", "B: 5\n", "A: 66\n"};
+        for (int i = 0; i < manifests.length; i++) {
+            Maker inner = new Maker();
+            inner.store(manifests[i] == null ? "none" : MANIFEST, manifests[i] == null ? "A: 7\n" : manifests[i]);
+            maker.store("in" + i, inner.bytes());
+        }
+        NestedArchives y = Calls.opened(maker);
+        for (int i = 0; i < manifests.length; i++) {
+            y.mount(i);
+        }
+        String[] due = {"1", "-1", "IllegalArgumentException", "-1", "-1", "2"};
+        String[] value = {"1", "", null, "", "", "66"};
+        String kept = "";
+        for (int from = 0; from < manifests.length; from++) {
+            for (int i = 0; i < manifests.length; i++) {
+                int m = 1 + (i * (1 + from % 2 * 4) + from) % manifests.length;
+                Check.due("manifest " + m, Check.answer(() -> Calls.attribute(y, m, "A")), due[m - 1]);
+                kept = value[m - 1] == null ? kept : value[m - 1];
+                Check.due("manifest " + m + ": value", Calls.values(y), kept);
+            }
+        }
     }
 }

@@ -158,6 +158,14 @@ final class Model {
         return archive.get(k);
     }
 
+    int readLength() {
+        return read.length();
+    }
+
+    int valueLength() {
+        return value.length();
+    }
+
     private static int at(String s, int i) {
         return i >= 0 && i < s.length() ? s.charAt(i) : -1;
     }

@@ -35,7 +35,7 @@ public final class ModelTest {
     }
 
     private void go() {
-        for (int part = 0; part < 3; part++) {
+        for (int part = 0; part < 6; part++) {
             Maker maker = archive(0);
             byte[] bytes = maker.bytes();
             if (random.nextInt(4) == 0) {
@@ -45,12 +45,15 @@ public final class ModelTest {
                 feed(bytes);
             }
             call("open");
+            if (count(-1) == 0 && part > 0) {
+                continue;
+            }
             if (random.nextBoolean()) {
                 for (int i = random.nextInt(7); i > 0; i--) {
                     call("mount", random.nextInt(9));
                 }
             }
-            for (int i = 0; i < 40; i++) {
+            for (int i = 0; i < (count(-1) == 0 ? 10 : 40); i++) {
                 someCall();
             }
         }
@@ -178,12 +181,32 @@ public final class ModelTest {
         return text.toString();
     }
 
-    private int archiveNumber() {
-        return rarely() ? ODD[random.nextInt(ODD.length)] : random.nextInt(4);
+    private int count(int m) {
+        return Integer.parseInt(model.call("count", m));
     }
 
-    private int entryNumber() {
-        return rarely() ? ODD[random.nextInt(ODD.length)] : random.nextInt(9);
+    /** Mostly an archive that there is, or the first one that there isn't. */
+    private int archiveNumber() {
+        return rarely() ? ODD[random.nextInt(ODD.length)] : random.nextInt(count(-1) + 1);
+    }
+
+    private int entryNumber(int m) {
+        return rarely() ? ODD[random.nextInt(ODD.length)] : random.nextInt(Math.max(0, count(m)) + 1);
+    }
+
+    private void readSome(int m, int k) {
+        call("read", m, k);
+        for (int i = -1; i < 2; i++) {
+            call("octet", rarely() ? byteNumber() : model.readLength() + i);
+        }
+    }
+
+    private void attributeSome() {
+        typeSome();
+        call("attribute", archiveNumber());
+        for (int i = -1; i < 2; i++) {
+            call("value", rarely() ? byteNumber() : model.valueLength() + i);
+        }
     }
 
     private int byteNumber() {
@@ -203,8 +226,14 @@ public final class ModelTest {
     private void someCall() {
         switch (random.nextInt(15)) {
             case 0 -> call("count", rarely() ? byteNumber() : random.nextInt(8) - 1);
-            case 1 -> call("entry", archiveNumber(), entryNumber(), rarely() ? byteNumber() : random.nextInt(6));
-            case 2 -> call("letter", archiveNumber(), entryNumber(), byteNumber());
+            case 1 -> {
+                int m = archiveNumber();
+                call("entry", m, entryNumber(m), rarely() ? byteNumber() : random.nextInt(6));
+            }
+            case 2 -> {
+                int m = archiveNumber();
+                call("letter", m, entryNumber(m), byteNumber());
+            }
             case 3 -> {
                 typeSome();
                 call("number", archiveNumber());
@@ -213,14 +242,14 @@ public final class ModelTest {
                 typeSome();
                 call("find", archiveNumber());
             }
-            case 5, 6 -> call("read", archiveNumber(), entryNumber());
-            case 7 -> call("octet", byteNumber());
-            case 8, 9 -> call("mount", entryNumber());
-            case 10 -> call("index");
-            case 11, 12, 13 -> {
-                typeSome();
-                call("attribute", archiveNumber());
+            case 5, 6 -> {
+                int m = archiveNumber();
+                readSome(m, entryNumber(m));
             }
+            case 7 -> call("octet", byteNumber());
+            case 8, 9 -> call("mount", entryNumber(0));
+            case 10 -> call("index");
+            case 11, 12, 13 -> attributeSome();
             default -> call("value", byteNumber());
         }
     }

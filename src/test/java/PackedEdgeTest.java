@@ -11,6 +11,7 @@ public final class PackedEdgeTest {
         everyCut();
         lastByte();
         plainLengths();
+        plainPlaces();
         sizes();
         waysBack();
         blocks();
@@ -77,8 +78,21 @@ public final class PackedEdgeTest {
         fine("a row of all kinds", packed, content);
         for (int n = 0; n < packed.length; n++) {
             wrong("its first " + n + " bytes", Arrays.copyOf(packed, n), content);
+            told(packed, n, content);
         }
         wrong("a byte more", Arrays.copyOf(packed, packed.length + 1), content);
+        byte[] none = new Bits().plain(true, new byte[0]).bytes();
+        for (int n = 0; n < none.length; n++) {
+            told(none, n, "");
+        }
+    }
+
+    /** The whole row stands there, but its first n bytes alone are the data. */
+    private static void told(byte[] packed, int n, String content) {
+        Maker maker = new Maker();
+        maker.add("e", Maker.text(content), packed, 8).packedSize = n;
+        NestedArchives x = Calls.opened(maker);
+        Check.fault("its first " + n + " bytes are the data", x, () -> x.read(0, 0), 8, 0);
     }
 
     /** A row whose last byte has one bit of it, or eight; a whole byte behind it is one too many. */
@@ -122,6 +136,33 @@ public final class PackedEdgeTest {
         fine("no plain bytes behind the size", new Bits().plain(false, Maker.text("pp")).plain(true, new byte[0]).bytes(), "pp");
     }
 
+    /** A plain block whose beginning ends with each of a byte's bits, and one that ends with the last byte there can be. */
+    private static void plainPlaces() {
+        for (int n = 0; n < 8; n++) {
+            Bits bits = new Bits().block(false, 1);
+            for (int i = 0; i < n; i++) {
+                bits.fixed(200);
+            }
+            String content = "\u00c8".repeat(n);
+            fine("plain behind " + n + " signs of nine bits", bits.fixed(256).plain(true, Maker.text("plain")).bytes(),
+                    content + "plain");
+        }
+        for (int n : new int[] {7999, 8000, 8001}) {
+            Bits bits = new Bits().block(false, 1).fixed('r');
+            int done = 1;
+            while (n - done > 600) {
+                bits.fixed(285).fixedWay(0);
+                done += 258;
+            }
+            byte[] packed = bits.fixed(256).plain(true, Maker.text("r".repeat(n - done))).bytes();
+            if (n <= 8000) {
+                fine("plain bytes up to " + n, packed, "r".repeat(n));
+            } else {
+                wrong("plain bytes beyond 8000", packed, "r".repeat(8000));
+            }
+        }
+    }
+
     /** n bytes by one byte and copies of it. */
     private static byte[] repeated(int n) {
         Bits bits = new Bits().block(true, 1).fixed('r');
@@ -150,6 +191,8 @@ public final class PackedEdgeTest {
         Bits copy = new Bits().block(true, 1).fixed('r').fixed(285).fixedWay(0).fixed(256);
         fine("a copy up to the size", copy.bytes(), "r".repeat(259));
         wrong("a copy a byte beyond the size", copy.bytes(), "r".repeat(258));
+        wrong("a copy beyond the size, left out", copy.bytes(), "r");
+        wrong("a copy beyond the size, cut", copy.bytes(), "rrr");
         fine("258 by 284 and 31", new Bits().block(true, 1).fixed('r').fixed(284).number(5, 31).fixedWay(0).fixed(256)
                 .bytes(), "r".repeat(259));
         fine("no sign", new Bits().block(true, 1).fixed(256).bytes(), "");
@@ -175,6 +218,8 @@ public final class PackedEdgeTest {
                 fine("way " + way + " from " + far + " back", back(row, way, bits, far - least), content);
                 wrong("way " + way + " of " + far + " back, a byte too far", back(Arrays.copyOf(row, far - 1), way, bits,
                         far - least), content.substring(1));
+                wrong("way " + way + " of " + far + " back, left out", back(Arrays.copyOf(row, far - 1), way, bits,
+                        far - least), text.substring(0, far - 1));
             }
             least += 1 << bits;
         }
@@ -452,7 +497,14 @@ public final class PackedEdgeTest {
     private static void aloneAndNone() {
         int[] lone = lengths(257, 256, 1);
         fine("256 alone, of length 1", told(true, lone, NONE).code(1, 0).bytes(), "");
-        wrong("256 alone, of length 1, by a 1", told(true, lone, NONE).code(1, 1).number(14, 0).bytes(), "");
+        wrong("256 alone, of length 1, by a 1", told(true, lone, NONE).code(1, 1).bytes(), "");
+        for (int more = 0; more < 16; more++) {
+            // However many bits somebody takes for the code that isn't there, and whatever byte for what it stands for.
+            byte[] packed = told(true, lone, NONE).code(1, 1).number(more, 0).bytes();
+            wrong("256 alone, by a 1 and " + more + " zeros", packed, "");
+            wrong("256 alone, by a 1 and " + more + " zeros, for 0", packed, "\0");
+            wrong("256 alone, by a 1 and " + more + " zeros, for 255", packed, "\u00ff");
+        }
         wrong("256 alone, of length 2", told(true, lengths(257, 256, 2), NONE).code(2, 0).bytes(), "");
         wrong("256 alone, of length 15", told(true, lengths(257, 256, 15), NONE).code(15, 0).bytes(), "");
         wrong("another one alone", told(true, lengths(257, 'a', 1), NONE).code(1, 0).bytes(), "a");
@@ -468,12 +520,19 @@ public final class PackedEdgeTest {
             fine("way " + way + " alone", told(true, firsts, one).among(firsts, 'b').among(firsts, 'a').among(firsts, 257)
                     .code(1, 0).among(firsts, 256).bytes(), way == 0 ? "baaaa" : "babab");
             wrong("way " + way + " alone, by a 1", told(true, firsts, one).among(firsts, 'b').among(firsts, 'a')
-                    .among(firsts, 257).code(1, 1).among(firsts, 256).number(14, 0).bytes(), way == 0 ? "baaaa" : "babab");
+                    .among(firsts, 257).code(1, 1).among(firsts, 256).bytes(), way == 0 ? "baaaa" : "babab");
+            wrong("way " + way + " alone, by a 1, left out", told(true, firsts, one).among(firsts, 'b').among(firsts, 'a')
+                    .among(firsts, 257).code(1, 1).among(firsts, 256).bytes(), "ba");
             wrong("way " + way + " alone, of length 2", told(true, firsts, lengths(2, way, 2)).among(firsts, 256).bytes(), "");
             wrong("way " + way + " alone, of length 15", told(true, firsts, lengths(2, way, 15)).among(firsts, 256).bytes(), "");
         }
         fine("no way of 1", told(true, firsts, NONE).among(firsts, 'a').among(firsts, 256).bytes(), "a");
         fine("no way of 30", told(true, firsts, new int[30]).among(firsts, 'a').among(firsts, 256).bytes(), "a");
-        wrong("no way, but a copy", told(true, firsts, NONE).among(firsts, 'a').among(firsts, 257).number(15, 0).bytes(), "aaaa");
+        for (int more = 0; more < 16; more++) {
+            byte[] packed = told(true, firsts, NONE).among(firsts, 'a').among(firsts, 257).number(more, 0).among(firsts, 256)
+                    .bytes();
+            wrong("no way, but a copy and " + more + " zeros", packed, "aaaa");
+            wrong("no way, but a copy and " + more + " zeros, left out", packed, "a");
+        }
     }
 }

@@ -94,6 +94,17 @@ public final class RefusedTest {
         for (int k = 2; k <= 4; k++) {
             Check.due("mount", x.mount(k), k - 1);
         }
+        return filledUp(x);
+    }
+
+    /** The same, but for the mounts, which an index has told. */
+    private static NestedArchives byIndex() {
+        NestedArchives x = Calls.opened(outer(line("in1") + line("in2") + line("in3")));
+        Check.due("index", x.index(), 3);
+        return filledUp(x);
+    }
+
+    private static NestedArchives filledUp(NestedArchives x) {
         x.read(0, 0);
         Calls.attribute(x, 0, "Kept");
         Check.fault("a fault ahead", x, () -> x.read(0, number(ODD)), 6, number(ODD));
@@ -133,11 +144,13 @@ public final class RefusedTest {
 
     private static void index(String what, ToLongFunction<NestedArchives> call, String changes) {
         refused(what, RefusedTest::full, call, "IndexOutOfBoundsException", changes, -1, 0);
+        refused(what + ", by index", RefusedTest::byIndex, call, "IndexOutOfBoundsException", changes, -1, 0);
         refused(what + ", new object", RefusedTest::fresh, call, "IndexOutOfBoundsException", changes, -1, 0);
     }
 
     private static void fault(String what, ToLongFunction<NestedArchives> call, String changes, int fault, int place) {
         refused(what, RefusedTest::full, call, "IllegalArgumentException", changes, fault, place);
+        refused(what + ", by index", RefusedTest::byIndex, call, "IllegalArgumentException", changes, fault, place);
     }
 
     /** A tape of n bytes that is an archive, and the name "ke". */
